@@ -1484,7 +1484,11 @@ public final class MixStage {
             boolean afterAnd = false;
             boolean more = true;
             for (int step = 0; step <= Tokens.MAX_TOKENS && fault == 0 && more; step++) {
-                readLiteral();
+                boolean negated = takeNots();
+                readSum();
+                int relation = takeRelation();
+                readSum();
+                emitLiteral(relation, negated);
                 if (afterAnd) {
                     draft.emit(Rules.CODES + Tokens.AND);
                 }
@@ -1501,19 +1505,25 @@ public final class MixStage {
             }
         }
 
-        private void readLiteral() {
+        private boolean takeNots() {
             boolean negated = false;
             for (int step = 0; step <= Tokens.MAX_TOKENS && fault == 0 && kind == Tokens.NOT; step++) {
                 take(Tokens.NOT);
                 negated = !negated;
             }
-            readSum();
+            return negated;
+        }
+
+        private int takeRelation() {
             int relation = kind;
             if (relation < Tokens.SAME || relation > Tokens.AT_MOST) {
                 fail(SYNTAX);
             }
             take(relation);
-            readSum();
+            return relation;
+        }
+
+        private void emitLiteral(int relation, boolean negated) {
             draft.emit(Rules.CODES + relation);
             if (negated) {
                 draft.emit(Rules.CODES + Tokens.NOT);
