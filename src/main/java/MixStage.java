@@ -660,13 +660,14 @@ public final class MixStage {
             if (sound == null) {
                 return 0;
             }
-            if (sound.sheet != null) {
-                return sound.sheet.laid;
+            Sheet sheet = sound.sheet;
+            if (sheet != null) {
+                return sheet.laid;
             }
             return sound.source == NONE ? 0 : 1 << sound.source;
         }
 
-        private int joined(int[] row, int bits) {
+        private static int joined(int[] row, int bits) {
             int all = 0;
             for (int i = 0; i < MAX_SOUNDS; i++) {
                 if (((bits >>> i) & 1) != 0) {
@@ -699,7 +700,7 @@ public final class MixStage {
             return allThere && ((touched >>> number) & 1) == 0;
         }
 
-        private boolean isBehind(Sound made, int bits) {
+        private boolean isBehind(Sound made, Sheet sheet, int bits) {
             for (int i = 0; i < soundCount; i++) {
                 Sound other = get(i);
                 if (((bits >>> i) & 1) != 0 && other != null && other.stamp > made.stamp) {
@@ -707,11 +708,20 @@ public final class MixStage {
                 }
             }
             for (int mark = 0; mark < MARKS; mark++) {
-                if (((made.sheet.hung >>> mark) & 1) != 0 && at(markStamps, mark) > made.stamp) {
+                if (((sheet.hung >>> mark) & 1) != 0 && at(markStamps, mark) > made.stamp) {
                     return true;
                 }
             }
             return false;
+        }
+
+        private boolean isNewlyStale(int number, int stale) {
+            Sound made = get(number);
+            if (made == null || made.sheet == null || ((stale >>> number) & 1) != 0) {
+                return false;
+            }
+            int bits = at(leaning, number);
+            return (bits & stale) != 0 || isBehind(made, made.sheet, bits);
         }
 
         private int staleMask() {
@@ -719,9 +729,7 @@ public final class MixStage {
             int stale = 0;
             for (int pass = 0; pass <= MAX_SOUNDS; pass++) {
                 for (int i = 0; i < soundCount; i++) {
-                    Sound made = get(i);
-                    int bits = at(leaning, i);
-                    if (made != null && made.sheet != null && ((bits & stale) != 0 || isBehind(made, bits))) {
+                    if (isNewlyStale(i, stale)) {
                         stale |= 1 << i;
                     }
                 }
@@ -765,8 +773,9 @@ public final class MixStage {
                 return 0;
             }
             int greatest = 0;
-            for (int i = 0; i < soundCount && sound.sheet != null; i++) {
-                if (((sound.sheet.laid >>> i) & 1) != 0) {
+            int laid = sound.sheet == null ? 0 : sound.sheet.laid;
+            for (int i = 0; i < soundCount; i++) {
+                if (((laid >>> i) & 1) != 0) {
                     greatest = Math.max(greatest, at(hissing, i));
                 }
             }

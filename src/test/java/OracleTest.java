@@ -92,9 +92,15 @@ public final class OracleTest {
                 int n = small ? 1 + r.nextInt(4) : num(1, 60);
                 due("reel(" + n + ")", bit(x.reel(n)), bit(y.reel(n)));
             }
-            int start = 3 + r.nextInt(8);
+            int start = 3 + r.nextInt(12);
             for (int i = 0; i < start; i++) {
                 tellSound();
+            }
+            for (int i = 0; i < 5; i++) {
+                tellText();
+                if (r.nextInt(3) == 0) {
+                    newEdition();
+                }
             }
             while (made < 480 && ok) {
                 step();
@@ -104,10 +110,30 @@ public final class OracleTest {
             }
         }
 
+        private void newEdition() {
+            int size = y.editions.get(y.editions.size() - 1).size();
+            due("edition()", x.edition(), y.edition());
+            int n = r.nextInt(5);
+            int last = 0;
+            for (int i = 0; i < n && size > 0; i++) {
+                int a = r.nextInt(2) == 0 ? Math.min(last, size - 1) : r.nextInt(size);
+                int b = a + 1 + r.nextInt(size - a);
+                last = b;
+                if (r.nextInt(5) == 0) {
+                    due("blank(1)", x.blank(1), y.blank(1));
+                }
+                due("keep(" + a + ", " + b + ")", x.keep(a, b), y.keep(a, b));
+            }
+        }
+
         private void step() {
-            switch (r.nextInt(12)) {
+            switch (r.nextInt(16)) {
                 case 0:
-                    tellText();
+                    if (r.nextInt(y.sheets.size() < 8 ? 5 : 25) == 0) {
+                        tellText();
+                    } else if (r.nextInt(6) == 0) {
+                        newEdition();
+                    }
                     break;
                 case 1:
                     tellPicture();
@@ -151,8 +177,8 @@ public final class OracleTest {
             if (pick < 5) {
                 int kind = r.nextInt(30) == 0 ? num(-1, 4) : r.nextInt(4);
                 int n = r.nextInt(9) == 0 ? -1 : r.nextInt(2) == 0 ? num(1, 16) : num(0, 240);
-                int b = kind == 1 && n > 0 ? 1 + r.nextInt(n + (r.nextInt(9) == 0 ? 2 : 0)) : num(0, 240);
-                int a = kind == 1 ? r.nextInt(Math.max(1, Math.min(b + 1, 240))) : num(0, 7);
+                int b = kind == 1 && n > 0 ? 1 + r.nextInt(Math.min(n, 300) + (r.nextInt(9) == 0 ? 2 : 0)) : num(0, 240);
+                int a = kind == 1 ? r.nextInt(Math.max(1, Math.min(Math.max(0, b) + 1, 240))) : num(0, 7);
                 due("sound(" + kind + ", " + n + ", " + a + ", " + b + ")", x.sound(kind, n, a, b), y.sound(kind, n, a, b));
                 if (r.nextInt(5) > 0) {
                     tellSamples();
@@ -257,8 +283,9 @@ public final class OracleTest {
         private void lookOnce() {
             int s = soundNo();
             int sh = sheetNo();
-            int e = editionNo();
-            int k = r.nextInt(3) == 0 ? num(0, 3) : num(0, 39);
+            int own = sh >= 0 && sh < y.sheets.size() ? y.sheets.get(sh).edition : 0;
+            int e = r.nextInt(4) == 0 ? editionNo() : own + r.nextInt(y.editions.size() - own);
+            int k = num(0, Math.max(0, y.cues(sh) - 1));
             switch (r.nextInt(18)) {
                 case 0:
                     due("frames(" + e + ")", x.frames(e), y.frames(e));
@@ -364,13 +391,13 @@ public final class OracleTest {
 
         String text() {
             boolean long_ = r.nextInt(12) == 0;
-            if (r.nextInt(4) == 0) {
+            if (r.nextInt(3) == 0) {
                 rules(long_);
             } else {
                 sheet(long_);
             }
             String text = b.toString();
-            if (r.nextInt(4) == 0) {
+            if (r.nextInt(5) == 0) {
                 text = bent(text);
             }
             return text;
@@ -402,7 +429,7 @@ public final class OracleTest {
                 blocks.add(name);
             }
             w("sheet");
-            cues(many ? 18 : r.nextInt(3) == 0 ? 16 : 7);
+            cues(many ? 18 : r.nextInt(3) > 0 ? 16 : 7);
             w("end");
         }
 
@@ -488,7 +515,7 @@ public final class OracleTest {
 
         private void lay() {
             w("lay");
-            n(0, r.nextInt(20) == 0 ? 19 : Math.min(19, sounds - 1));
+            n(0, r.nextInt(90) == 0 ? 19 : Math.min(19, sounds - 1));
             w("at");
             time();
             if (r.nextInt(4) == 0) {
@@ -519,7 +546,7 @@ public final class OracleTest {
             for (int i = 0; i < n; i++) {
                 if (r.nextInt(3) == 0) {
                     w("loud");
-                    n(0, r.nextInt(3) == 0 ? 200 : 20);
+                    n(0, new int[] {20, 100, 400, 1000, 3000}[r.nextInt(5)]);
                     w("in");
                     n(1, r.nextBoolean() ? 3 : 60);
                 } else {
