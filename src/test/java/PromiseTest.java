@@ -561,12 +561,16 @@ public final class PromiseTest {
         due("first too large", x.wave(0, 0, 1, 10000, -1), false);
         due("wrapping", x.wave(0, 0, 3, 0, 1 << 31), false);
         due("wrapping", x.wave(0, 0, 5, 0, 1 << 30), false);
+        due("the last of a later row", x.wave(0, 8, 10, 9999, 1), false);
+        due("the last of a later row", x.wave(0, 8, 10, 9999, -19998), true);
+        x.wave(0, 0, 10, -9990, -1);
         due("nothing happens", x.heard(0, 0), -9990);
+        due("nothing happens", x.heard(0, 9), -9999);
         due("not all these", x.wave(0, -1, 3, 0, 0), false);
         due("not all these", x.wave(0, 3, 11, 0, 0), false);
         due("no such SOUND", x.wave(1, 0, 1, 0, 0), false);
         due("no such SOUND", x.wave(-1, 0, 1, 0, 0), false);
-        due("count(3)", x.count(3), 4);
+        due("count(3)", x.count(3), 6);
         x.sound(0, -1, 0, 0);
         due("MISSING", x.wave(1, 0, 1, 0, 0), false);
         x.trim(0, 0, 5);
@@ -755,6 +759,14 @@ public final class PromiseTest {
         due("GENERATION without lays", x.about(g, 1), 1);
         due("length", x.length(g), 16);
         heard(x, g, 0, 0, 0);
+        MixStage y = reel(4);
+        tone(y, 8, 10, 10);
+        int h = mix(y, "sheet lay 0 at 0 stem 0; clip 0; end");
+        heard(y, h, 0, 0, 0);
+        y.sound(1, 6, 1, 4);
+        y.wave(y.count(1) - 1, 0, 6, 1, 1);
+        int i = mix(y, "sheet lay 2 at 0 from 2 stem 0; lay 0 at mark 0 + 0 gain 0 stem 2; end");
+        heard(y, i, 0, 3, 4, 2, 3);
     }
 
     private static void makesFades() {
@@ -770,6 +782,8 @@ public final class PromiseTest {
         heard(x, d, 0, 40, 50, 60, 70, 80, 80);
         int e = mix(x, "sheet lay 0 at 0 gain 3 stem 0; lay 0 at 0 gain 3 stem 0; fade 0 from 0 to 0 gain 0, 30; end");
         heard(x, e, 0, 1);
+        int f = mix(x, "sheet lay 0 at 0 stem 2; lay 0 at 0 stem 1; fade 2 from 1 to mark 0 + 2 gain 400, 0; end");
+        heard(x, f, 3, 200, 500, 400, 300, 200, 100, 100);
     }
 
     private static void makesDips() {
@@ -784,6 +798,8 @@ public final class PromiseTest {
         heard(x, c, 0, 0, 0, 0);
         int d = mix(x, "sheet lay 0 at 0 stem 0; dip 0 under 0 by 100 hold 0; end");
         heard(x, d, 0, 0, 0, 0);
+        int f = mix(x, "sheet dip 0 under 2 by 10 hold 0; lay 0 at 0 stem 0; lay 1 at 0 gain 1 stem 2; dip 2 under 0 by 50 hold 0; end");
+        heard(x, f, 0, 95, 95, 100);
         int e = mix(x, "sheet lay 0 at 0 stem 0; dip 0 under 1 by 100 hold 60; lay 1 at mark 0 - 1 stem 1; end");
         heard(x, e, 0, 100, 100);
     }
@@ -800,6 +816,10 @@ public final class PromiseTest {
         heard(x, c, 0, 0, 50, 100, 150, 0);
         int d = mix(x, "sheet lay 0 at 0 stem 0; taps 0 of 400; taps 0 of 400; taps 0 of 400; end");
         heard(x, d, 0, 6400, 9999, 9999, 0);
+        int f = mix(x, "sheet taps 1 of 0, 100; lay 0 at 1 from 0 stem 1; lay 0 at 1 gain 1 speed 1/1 stem 2; end");
+        heard(x, f, 3, 0, 1, 102, 203, 300);
+        int g = mix(x, "sheet taps 1 of 0, 0, 100; lay 0 at 1 stem 1; end");
+        heard(x, g, 4, 0, 0, 100, 200);
         StringBuilder many = new StringBuilder("block b ");
         for (int i = 0; i < 16; i++) {
             many.append("taps 0 of 400;");
@@ -866,6 +886,22 @@ public final class PromiseTest {
         due("none left", x.again(), 0);
         x.make(early, 0, 0);
         due("one that leans on what was made", x.again(), 1);
+        MixStage y = reel(1);
+        int first = y.mixed();
+        int second = y.mixed();
+        tone(y, 4, 1, 0);
+        tell(y, "sheet lay 2 at mark 0 stem 0; end");
+        tell(y, "sheet lay 0 at 0 stem 0; end");
+        y.make(first, 0, 0);
+        y.make(second, 1, 0);
+        y.mark(0, 0);
+        due("the MARK of one, and one that leans on it", y.again(), 2);
+        due("STAMP of the first", y.about(first, 3), y.count(3) - 1);
+        y.hisses(1, 4);
+        due("HISS of SOUND 0 laid", y.about(second, 2), 4);
+        y.sample(2, 0, 3);
+        due("as they were made last", y.again(), 2);
+        heard(y, second, 0, 3, 1);
     }
 
     private static void lengths() {
@@ -994,6 +1030,10 @@ public final class PromiseTest {
         for (int k = 0; k < 8; k++) {
             due("order", x.cue(1, k, 2), clips[k]);
         }
+        String nested = "block a clip 1; end block b use a at 0; end block c use b at 0; end block d use c at 0; end"
+                + " block e use d at 0; end block zzz use e at 0; end sheet use zzz at 0; end";
+        due("blocks in blocks", tell(x, nested), 0);
+        due("blocks in blocks", x.cues(2), 1);
     }
 
     private static void cueParts() {
@@ -1074,6 +1114,13 @@ public final class PromiseTest {
         y.blank(1);
         y.keep(0, 2);
         due("MOVED", y.fate(1, 0, 2), 0);
+        MixStage z = reel(60);
+        tone(z, 1, 1, 1);
+        tell(z, "sheet lay 0 at 59 stem 0; lay 0 at 0 stem 0; end");
+        due("HEARD in one SAMPLE", z.fate(0, 0, 0), 0);
+        due("HEARD in one SAMPLE", z.fate(0, 1, 0), 0);
+        due("the first FRAME", z.goes(0, 1, 0), 0);
+        due("the last FRAME", z.goes(0, 0, 0), 59);
     }
 
     private static void goings() {
@@ -1122,6 +1169,8 @@ public final class PromiseTest {
         due("alike", x.quarrel(1, 0), -1);
         tell(x, "sheet fade 2 from 3 to 9 gain 1, 1; fade 2 from 3 to 3 gain 1, 1; end");
         due("alike", x.quarrel(2, 0), 1);
+        tell(x, "sheet fade 2 from 3 to 9 gain 1, 1; fade 2 from 1 to 3 gain 1, 1; fade 2 from 9 to 10 gain 1, 1; end");
+        due("at the end of the other", x.quarrel(3, 0), -1);
     }
 
     private static void louds() {
@@ -1144,6 +1193,12 @@ public final class PromiseTest {
         x.trim(0, 1, 10);
         due("TRIMMED", x.loud(2, 2), 17);
         due("TRIMMED", x.loud(2, 1), 4 + 9);
+        x.sample(0, 12, -1);
+        x.sample(0, 6, -1);
+        x.sample(0, 7, 3);
+        // rows begin with SAMPLE 0, 4, 8 alone: 1 + 1 + 1 + 3, not one SAMPLE later
+        x.sample(0, 10, 3);
+        due("rows begin with 0, 4, 8", x.loud(0, 1), 6);
         x.mixed();
         due("not made", x.loud(3, 1), 0);
     }
@@ -1243,6 +1298,11 @@ public final class PromiseTest {
         fit(x, g, f, 4, 0, 0, 9);
         fit(x, g, f, 5, 0, 0, 10);
         fit(x, e, g, 0, 1, 0, 10);
+        int h = line(x, 34);
+        fit(x, g, h, 0, 0, 23, 11);
+        fit(x, g, line(x, 35), 0, 0, 24, 11);
+        fit(x, h, line(x, 6), 0, 0, -24, 9);
+        fit(x, g, line(x, 36), 0, 1, 0, 10);
         due("no such what", x.fit(a, b, 0, 3), -1);
         due("no such what", x.fit(a, b, 0, -1), -1);
         due("one and the same", x.fit(a, a, 0, 0), -1);
@@ -1250,10 +1310,10 @@ public final class PromiseTest {
         due("one and the same", x.fit(a, a, 0, 2), -1);
         due("slack", x.fit(a, b, 10, 0), -1);
         due("slack", x.fit(a, b, -1, 1), -100);
-        due("no such LINE", x.fit(a, 9, 0, 1), -100);
+        due("no such LINE", x.fit(a, 19, 0, 1), -100);
         due("no such LINE", x.fit(-1, a, 0, 2), -1);
         x.sound(0, 4, 0, 0);
-        due("no LINE", x.fit(a, 8, 0, 0), -1);
+        due("no LINE", x.fit(a, x.count(1) - 1, 0, 0), -1);
     }
 
     private static void soundings() {
@@ -1298,7 +1358,7 @@ public final class PromiseTest {
         x.wave(music, 0, 200, 9, 0);
         x.trim(music, 0, 4);
         x.trim(1, 0, 3);
-        tell(x, "sheet lay 0 at 0 stem 0; lay 1 at 0 stem 0; lay 2 at 59 stem 0; end");
+        tell(x, "sheet lay 0 at 0 stem 0; lay 1 at 0 stem 0; lay 2 at 59 stem 0; lay 3 at 0 stem 0; clip 9; end");
         due("without RULES", x.owed(0, music, 0, 0), 0);
         rule(x, "right frames;", 0, 51);
         rule(x, "right seconds;", 0, 3);
@@ -1334,6 +1394,10 @@ public final class PromiseTest {
         due("no such land", x.owed(0, music, 0, -1), -1);
         due("no MUSIC", x.owed(0, 1, 0, 0), -1);
         due("no such SOUND", x.owed(0, 3, 0, 0), -1);
+        rule(x, "right 1 if 3 <= 2; right 2 if 3 < 2; right 3 if 2 != 2; right 4 if 3 == 2; right 5;", 0, 5);
+        rule(x, "right 1 if 1 == 2 or 1 == 2 and 1 == 1 or 2 == 2; right 2;", 0, 1);
+        rule(x, "right 1 if 1 == 1 and 1 == 1 and 1 == 2; right 2;", 0, 2);
+        rule(x, "right 1 if 1 == 1 and 1 == 2 or 1 == 2 and 1 == 1; right 2;", 0, 2);
         due("no such SHEET", x.owed(1, music, 0, 0), -1);
         due("no such EDITION", x.owed(0, music, 1, 0), -1);
         tell(x, "rules right frames * 100 + seconds * 10 + heard; end");
