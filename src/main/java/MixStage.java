@@ -677,13 +677,17 @@ public final class MixStage {
             return all;
         }
 
-        /* One pass more than the longest chain of SOUNDS leaves nothing open. */
+        /* No chain of SOUNDS is longer than there are SOUNDS: so many passes and one leave nothing open. */
         private void findLeaning() {
             clear(leaning, 0);
-            for (int pass = 0; pass <= MAX_SOUNDS; pass++) {
+            boolean more = true;
+            for (int pass = 0; pass <= MAX_SOUNDS && more; pass++) {
+                more = false;
                 for (int i = 0; i < soundCount; i++) {
                     int once = leansAtOnce(get(i));
-                    put(leaning, i, once | joined(leaning, once));
+                    int all = once | joined(leaning, once);
+                    more |= all != at(leaning, i);
+                    put(leaning, i, all);
                 }
             }
         }
@@ -727,11 +731,11 @@ public final class MixStage {
         private int staleMask() {
             findLeaning();
             int stale = 0;
-            for (int pass = 0; pass <= MAX_SOUNDS; pass++) {
+            int before = NONE;
+            for (int pass = 0; pass <= MAX_SOUNDS && stale != before; pass++) {
+                before = stale;
                 for (int i = 0; i < soundCount; i++) {
-                    if (isNewlyStale(i, stale)) {
-                        stale |= 1 << i;
-                    }
+                    stale |= isNewlyStale(i, stale) ? 1 << i : 0;
                 }
             }
             return stale;
@@ -760,9 +764,13 @@ public final class MixStage {
 
         private int hissOf(int number) {
             clear(hissing, 0);
-            for (int pass = 0; pass <= MAX_SOUNDS; pass++) {
+            boolean more = true;
+            for (int pass = 0; pass <= MAX_SOUNDS && more; pass++) {
+                more = false;
                 for (int i = 0; i < soundCount; i++) {
-                    put(hissing, i, ownHiss(get(i)));
+                    int hiss = ownHiss(get(i));
+                    more |= hiss != at(hissing, i);
+                    put(hissing, i, hiss);
                 }
             }
             return at(hissing, number);
@@ -1922,9 +1930,12 @@ public final class MixStage {
         }
 
         private void blend(Sheet sheet, int halved) {
+            for (int stem = 0; stem < STEMS; stem++) {
+                clearStem(stem * MAX_SAMPLES);
+            }
             addLays(sheet, halved);
-            for (int i = 0; i < stems.length; i++) {
-                stems[i] = stems[i] * at(faders, i) / 100;
+            for (int stem = 0; stem < STEMS; stem++) {
+                turnDown(stem * MAX_SAMPLES);
             }
             for (int k = 0; k < sheet.count; k++) {
                 dip(sheet.cueAt(k));
@@ -1941,8 +1952,19 @@ public final class MixStage {
             }
         }
 
+        private void clearStem(int stem) {
+            for (int t = 0; t < length; t++) {
+                put(stems, stem + t, 0L);
+            }
+        }
+
+        private void turnDown(int stem) {
+            for (int t = 0; t < length; t++) {
+                put(stems, stem + t, at(stems, stem + t) * at(faders, stem + t) / 100);
+            }
+        }
+
         private void addLays(Sheet sheet, int halved) {
-            Arrays.fill(stems, 0L);
             int lay = 0;
             for (int k = 0; k < sheet.count; k++) {
                 Cue cue = sheet.cueAt(k);
