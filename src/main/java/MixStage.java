@@ -1432,24 +1432,24 @@ public final class MixStage {
 
         /* Only after a text without fault that is no RULES. */
         private void fill(Sheet sheet) {
-            putIn(sheet, blocks, NONE, 0, 0);
+            putIn(this, sheet, blocks, NONE, 0, 0);
         }
 
         /* A block uses only blocks ahead of it: no deeper than there are parts. */
-        private void putIn(Sheet sheet, int part, int byMark, int byFrame, int depth) {
+        private static void putIn(Reader from, Sheet sheet, int part, int byMark, int byFrame, int depth) {
             if (depth > MAX_BLOCKS) {
                 return;
             }
-            int count = at(cueCounts, part);
+            int count = at(from.cueCounts, part);
             for (int k = 0; k < count; k++) {
-                Cue cue = cueAt(part, k);
+                Cue cue = from.cueAt(part, k);
                 if (cue != null && cue.kind != Cue.USE) {
                     sheet.add(cue, byMark, byFrame);
-                } else if (cue != null && at(totals, cue.number) > 0) {
+                } else if (cue != null && at(from.totals, cue.number) > 0) {
                     // blocks without CUES are left out: uses of them within one another may be millions
                     int mark = cue.mark == NONE ? byMark : cue.mark;
                     int frame = cue.mark == NONE ? byFrame + cue.frame : cue.frame;
-                    putIn(sheet, cue.number, mark, frame, depth + 1);
+                    putIn(from, sheet, cue.number, mark, frame, depth + 1);
                 }
             }
         }
