@@ -1,87 +1,5 @@
 /** Promises 1 to 38 one by one: ordinary inputs, the edges that the document names, wrong inputs. */
-public final class PromiseTest {
-    private static int promise = 0;
-    private static int wrong = 0;
-    private static int asked = 0;
-
-    private static void due(String call, long got, long want) {
-        asked++;
-        if (got != want) {
-            wrong++;
-            System.out.println("promise " + promise + ": " + call + " answered " + got + ", due is " + want);
-        }
-    }
-
-    private static void due(String call, boolean got, boolean want) {
-        due(call, got ? 1 : 0, want ? 1 : 0);
-    }
-
-    /** Feeds a text, with the blanks behind it taken back. */
-    private static void feed(MixStage x, String text) {
-        int rest = (20 - text.length() % 20) % 20;
-        StringBuilder all = new StringBuilder(text);
-        for (int i = 0; i < rest; i++) {
-            all.append(' ');
-        }
-        for (int i = 0; i < all.length(); i += 20) {
-            int[] w = new int[5];
-            for (int k = 0; k < 20; k++) {
-                w[k / 4] = w[k / 4] << 8 | all.charAt(i + k) & 255;
-            }
-            x.feed(w[0], w[1], w[2], w[3], w[4]);
-        }
-        x.back(rest);
-    }
-
-    private static int tell(MixStage x, String text) {
-        feed(x, text);
-        return x.read();
-    }
-
-    /** A text and the number and place of its fault; a text without one is no sheet of the test's. */
-    private static void fault(String text, int number, int place) {
-        MixStage x = new MixStage();
-        due("read() of " + text, tell(x, text), number);
-        due("place() of " + text, x.place(), place);
-        due("nothing is told by " + text, number != 0 && x.count(2) + x.count(4) > 0, false);
-    }
-
-    private static String times(int n, String part) {
-        StringBuilder all = new StringBuilder();
-        for (int i = 0; i < n; i++) {
-            all.append(part);
-        }
-        return all.toString();
-    }
-
-    /** A PLAIN SOUND of n SAMPLES v, v + step, .. */
-    private static int tone(MixStage x, int n, int v, int step) {
-        int number = x.sound(0, n, 0, 0);
-        x.wave(number, 0, n, v, step);
-        return number;
-    }
-
-    private static MixStage reel(int frames) {
-        MixStage x = new MixStage();
-        x.reel(frames);
-        return x;
-    }
-
-    /** The SAMPLES of a SOUND from a on. */
-    private static void heard(MixStage x, int sound, int a, int... want) {
-        for (int i = 0; i < want.length; i++) {
-            due("heard(" + sound + ", " + (a + i) + ")", x.heard(sound, a + i), want[i]);
-        }
-    }
-
-    /** The MIX of a text alone, in the EDITION that is the last. */
-    private static int mix(MixStage x, String text) {
-        due("read() of " + text, tell(x, text), 0);
-        int sound = x.mixed();
-        due("make by " + text, x.make(sound, x.count(2) - 1, x.count(0) - 1) > 0, true);
-        return sound;
-    }
-
+public final class PromiseTest extends Kit {
     public static void main(String[] args) {
         Runnable[] all = {PromiseTest::newObject, PromiseTest::feeds, PromiseTest::backs, PromiseTest::reads, PromiseTest::places,
             PromiseTest::reels, PromiseTest::editions, PromiseTest::keeps, PromiseTest::blanks, PromiseTest::framesOf,
@@ -91,16 +9,11 @@ public final class PromiseTest {
             PromiseTest::leanings, PromiseTest::cueCounts, PromiseTest::cueParts, PromiseTest::fates, PromiseTest::goings,
             PromiseTest::quarrels, PromiseTest::louds, PromiseTest::tames, PromiseTest::seams, PromiseTest::fits,
             PromiseTest::soundings, PromiseTest::oweds, PromiseTest::counts};
-        for (promise = 1; promise <= all.length; promise++) {
-            int before = asked;
-            all[promise - 1].run();
-            if (asked == before) {
-                wrong++;
-                System.out.println("promise " + promise + " is not tested");
-            }
+        for (int i = 0; i < all.length; i++) {
+            about("promise " + (i + 1));
+            all[i].run();
         }
-        System.out.println("promises: " + asked + " answers, " + wrong + " wrong");
-        System.exit(wrong == 0 ? 0 : 1);
+        finish("promises");
     }
 
     private static void newObject() {
@@ -559,6 +472,8 @@ public final class PromiseTest {
         due("below -9999", x.wave(0, 0, 10, -9990, -1), true);
         due("below -9999", x.wave(0, 0, 10, -9991, -1), false);
         due("first too large", x.wave(0, 0, 1, 10000, -1), false);
+        due("the first alone too large", x.wave(0, 0, 10, 10000, -1), false);
+        due("the first alone too small", x.wave(0, 0, 10, -10000, 1), false);
         due("wrapping", x.wave(0, 0, 3, 0, 1 << 31), false);
         due("wrapping", x.wave(0, 0, 5, 0, 1 << 30), false);
         due("the last of a later row", x.wave(0, 8, 10, 9999, 1), false);
@@ -1164,6 +1079,26 @@ public final class PromiseTest {
         }
         due("quarrel(0, -1)", x.quarrel(0, -1), -1);
         due("quarrel(1, 0)", x.quarrel(1, 0), -1);
+        MixStage y = reel(9);
+        for (int m = 0; m < 8; m++) {
+            y.mark(m, 20 + m);
+        }
+        tell(y, text);
+        for (int i = 0; i < 4; i++) {
+            due("quarrel(0, " + i + ") with MARKS far behind", y.quarrel(0, i), want[i]);
+        }
+        // 25 is ahead of the MARK's 26, 24 is not ahead of 24
+        tell(y, "sheet fade 0 from mark 5 to 0 gain 1, 1; fade 0 from 3 to mark 6 gain 1, 1; fade 1 from mark 4 to 0 gain 1, 1;"
+                + " fade 1 from 5 to mark 4 gain 1, 1; end");
+        due("ahead of an end by a MARK", y.quarrel(1, 0), 1);
+        due("at an end by a MARK", y.quarrel(1, 1), -1);
+        tell(y, "sheet fade 0 from 3 to mark 6 gain 1, 1; fade 0 from mark 5 to 0 gain 1, 1; fade 1 from 5 to mark 4 gain 1, 1;"
+                + " fade 1 from mark 4 to 0 gain 1, 1; end");
+        due("ahead of an end by a MARK", y.quarrel(2, 0), 1);
+        due("at an end by a MARK", y.quarrel(2, 1), -1);
+        tell(y, "sheet lay 0 at 3 stem 0; dip 0 under 0 by 1 hold 1; taps 0 of 1; clip 9; fade 0 from 1 to 5 gain 1, 1; lay 0 at 3 stem 0;"
+                + " dip 0 under 0 by 1 hold 1; taps 0 of 1; fade 1 from 2 to 4 gain 1, 1; fade 2 from 1 to 5 gain 1, 1; end");
+        due("fades of one STEM alone", y.quarrel(3, 0), -1);
         // of two alike the later told begins later: ahead of the end of the one told first
         tell(x, "sheet fade 2 from 3 to 3 gain 1, 1; fade 2 from 3 to 9 gain 1, 1; lay 0 at 3 stem 2; end");
         due("alike", x.quarrel(1, 0), -1);
@@ -1264,14 +1199,6 @@ public final class PromiseTest {
         due("not MET", x.fit(one, other, slack, 0), lack);
         due("shift", x.fit(one, other, slack, 1), shift);
         due("stretch", x.fit(one, other, slack, 2), stretch);
-    }
-
-    private static int line(MixStage x, int... mouths) {
-        int number = x.sound(2, 4, 0, 0);
-        for (int frame : mouths) {
-            x.mouth(number, frame);
-        }
-        return number;
     }
 
     private static void fits() {

@@ -1,12 +1,11 @@
 import java.lang.reflect.Method;
 import java.util.ArrayList;
-import java.util.Arrays;
 import java.util.Comparator;
 import java.util.List;
 import java.util.Random;
 
 /** No call throws: wild numbers in every place, heaps of TOKENS as texts, and the same calls answer the same again. */
-public final class WildTest {
+public final class WildTest extends Kit {
     private static final int[] ODD = {Integer.MIN_VALUE, Integer.MIN_VALUE + 1, -10000, -9999, -241, -61, -2, -1, 0, 1, 2, 3, 4, 5,
         6, 7, 8, 9, 10, 19, 20, 21, 39, 40, 59, 60, 61, 239, 240, 241, 400, 511, 512, 999, 1000, 9999, 10000, 1 << 20,
         1 << 30, Integer.MAX_VALUE - 1, Integer.MAX_VALUE};
@@ -70,17 +69,5 @@ public final class WildTest {
             sum = sum * 31 + answer.hashCode();
         }
         return sum;
-    }
-
-    private static void feed(MixStage x, String text) {
-        int[] w = new int[5];
-        for (int i = 0; i < text.length(); i += 20) {
-            Arrays.fill(w, 0x20202020);
-            for (int k = 0; k < 20 && i + k < text.length(); k++) {
-                int shift = 24 - k % 4 * 8;
-                w[k / 4] = w[k / 4] & ~(255 << shift) | (text.charAt(i + k) & 255) << shift;
-            }
-            x.feed(w[0], w[1], w[2], w[3], w[4]);
-        }
     }
 }
