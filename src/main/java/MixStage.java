@@ -1764,7 +1764,7 @@ public final class MixStage {
 
     /* The MIX of a SHEET in its own EDITION and in later ones. */
     private static final class Mixer {
-        private static final int ABSENT = Integer.MIN_VALUE;
+        private static final int ABSENT = -1000000;
         private static final int TAME_LAYS = 8;
 
         private final Bank bank;

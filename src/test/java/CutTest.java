@@ -223,6 +223,14 @@ public final class CutTest extends Kit {
         due("the first loud RULE", tame("loud 3 in 1; loud 9 in 1;", lay), 1);
         due("no loud RULE", tame("right 1;", lay), -1);
         due("no lays", tame("loud 0 in 1;", "clip 9;"), 0);
+        MixStage x = new MixStage();
+        tone(x, 8, 100, 0);
+        x.edition();
+        tell(x, "rules loud 0 in 1; end");
+        tell(x, "sheet lay 0 at 0 stem 0; end");
+        due("in an EDITION without FRAMES", x.tame(0), 0);
+        due("no such SHEET", x.tame(1), -1);
+        due("no such SHEET", x.tame(-1), -1);
 
         about("played at half their gain (by 2, rounded down)");
         due("103 at half: 204", tame("loud 2 in 1;", "lay 0 at 0 gain 103 stem 0;"), -2);

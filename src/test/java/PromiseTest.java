@@ -815,6 +815,20 @@ public final class PromiseTest extends Kit {
         y.hisses(1, 4);
         due("HISS of SOUND 0 laid", y.about(second, 2), 4);
         y.sample(2, 0, 3);
+        MixStage z = reel(1);
+        tell(z, "sheet lay 0 at mark 0 stem 0; end");
+        tone(z, 4, 1, 1);
+        for (int i = 1; i < 20; i++) {
+            z.mixed();
+            z.make(i, 0, 0);
+        }
+        due("none", z.again(), 0);
+        z.mark(0, 0);
+        int before = z.count(3);
+        due("nineteen", z.again(), 19);
+        for (int i = 1; i < 20; i++) {
+            due("STAMP of " + i, z.about(i, 3), before + i);
+        }
         due("as they were made last", y.again(), 2);
         heard(y, second, 0, 3, 1);
     }
@@ -1106,6 +1120,42 @@ public final class PromiseTest extends Kit {
         due("alike", x.quarrel(2, 0), 1);
         tell(x, "sheet fade 2 from 3 to 9 gain 1, 1; fade 2 from 1 to 3 gain 1, 1; fade 2 from 9 to 10 gain 1, 1; end");
         due("at the end of the other", x.quarrel(3, 0), -1);
+        fullSheets();
+    }
+
+    /** Forty CUES, all put in: the most that a SHEET has. */
+    private static MixStage forty(String cue) {
+        MixStage x = reel(1);
+        tone(x, 4, 100, 0);
+        String ten = times(10, cue);
+        due("read", tell(x, "block a " + ten + "end block b " + ten + "use a at 0; end sheet use b at 0; use b at 0; end"), 0);
+        due("cues(0)", x.cues(0), 40);
+        return x;
+    }
+
+    private static void fullSheets() {
+        MixStage x = forty("fade 0 from 1 to 2 gain 0, 0;");
+        due("the first pair", x.quarrel(0, 0), 1);
+        due("the last of the first", x.quarrel(0, 38), 39);
+        due("the first of the second", x.quarrel(0, 39), 64 + 2);
+        due("the last pair", x.quarrel(0, 779), 64 * 38 + 39);
+        due("behind the last", x.quarrel(0, 780), -1);
+        due("far behind", x.quarrel(0, Integer.MAX_VALUE), -1);
+        due("far ahead", x.quarrel(0, Integer.MIN_VALUE), -1);
+        due("the last CUE", x.cue(0, 39, 1), 1);
+        due("behind it", x.cue(0, 40, 1), -1);
+        MixStage y = forty("lay 0 at 0 gain 99 stem 1;");
+        int mix = y.mixed();
+        y.make(mix, 0, 0);
+        heard(y, mix, 0, 40 * 99, 40 * 99, 40 * 99, 40 * 99, 0);
+        due("fate of the last", y.fate(0, 39, 0), 0);
+        due("goes of the last", y.goes(0, 39, 0), 0);
+        due("behind it", y.fate(0, 40, 0), -1);
+        tell(y, "rules loud 143 in 1; end");
+        // 4 * 3960 is 15840, a lay at half (49) gives 200 less
+        due("all of the first eight", y.tame(0), 255);
+        tell(y, "rules loud 142 in 1; end");
+        due("the others stay", y.tame(0), -2);
     }
 
     private static void louds() {

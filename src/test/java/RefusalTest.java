@@ -96,6 +96,10 @@ public final class RefusalTest extends Kit {
         look("fate, goes", 160, (x, i) -> i % 2 == 0 ? x.fate(i / 20, i / 4 % 5, i / 2 % 2) : x.goes(i / 20, i / 4 % 5, i / 2 % 2));
         look("quarrel, tame", 24, (x, i) -> i % 3 == 0 ? x.tame(i / 3) : x.quarrel(i / 3, i % 3));
         look("fit", 60, (x, i) -> x.fit(2 + i / 30, 2 + i / 15 % 2, i % 5, i % 3));
+        for (int f = 0; f < 60; f += 8) {
+            int frame = f;
+            look("fit with a MOUTH at " + f, 7, (x, i) -> i == 0 ? x.mouth(11, frame) : x.fit(11, 2 + i % 2, 0, i / 2 % 3));
+        }
         look("sounding, owed", 48, (x, i) -> i % 2 == 0 ? x.sounding(i / 6, 4, i / 2 % 3) : x.owed(i / 6, 4, i / 2 % 3, 1));
         look("what is on the tape", 30, (x, i) -> i == 0 ? x.read() : i == 1 ? x.place() : x.cue(x.count(2) - 1, (i - 2) / 4, i % 4));
         look("back", 12, (x, i) -> x.back(7));
@@ -120,9 +124,11 @@ public final class RefusalTest extends Kit {
         x.wave(2, 0, 8, 70, 1);
         x.sound(2, 4, 0, 0);
         for (int i = 0; i < 8; i++) {
-            x.mouth(i < 3 ? 2 : 3, 7 * i);
             x.mark(i, 2 * i + 1);
             x.mouth(3, 5 * i);
+            if (i < 3) {
+                x.mouth(2, 7 * i);
+            }
         }
         x.sound(3, 12, 5, 0);
         x.wave(4, 0, 12, 30, 4);
@@ -384,12 +390,13 @@ public final class RefusalTest extends Kit {
         full.refused("mute", -1, x -> x.mute(2));
         full.refused("mixed", -1, MixStage::mixed);
         full.refuses("reel", x -> x.reel(6));
-        for (int taken : new int[] {1, 19}) {
-            Start some = new Start("with " + taken + " bytes too few", x -> {
-                full(x);
+        for (int taken : new int[] {0, 1, 19}) {
+            Start some = new Start("with " + (2000 - taken) + " bytes", x -> {
+                feed(x, TAPE + times(2000 - TAPE.length(), " "));
                 x.back(taken);
             });
-            some.refused("feed", -1, x -> x.feed(1, 2, 3, 4, 5));
+            some.refused("feed", -1, x -> x.feed(-1, -1, -1, -1, -1));
+            some.refused("back(" + (2001 - taken) + ")", -1, x -> x.back(2001 - taken));
         }
     }
 
@@ -397,7 +404,7 @@ public final class RefusalTest extends Kit {
     private static void asking(Start rich) {
         for (int i = 0; i < LOOKS.size(); i++) {
             String name = LOOK_NAMES.get(i);
-            boolean tells = name.startsWith("more") || name.startsWith("made") || name.startsWith("what") || name.equals("back")
+            boolean tells = name.startsWith("more") || name.startsWith("fit with") || name.startsWith("made") || name.startsWith("what") || name.equals("back")
                     || name.equals("feed");
             if (!tells) {
                 about("asked: " + name);

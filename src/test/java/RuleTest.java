@@ -6,6 +6,7 @@ import com.sun.source.tree.ImportTree;
 import com.sun.source.tree.LambdaExpressionTree;
 import com.sun.source.tree.LiteralTree;
 import com.sun.source.tree.MemberReferenceTree;
+import com.sun.source.tree.MemberSelectTree;
 import com.sun.source.tree.MethodInvocationTree;
 import com.sun.source.tree.MethodTree;
 import com.sun.source.tree.NewClassTree;
@@ -198,6 +199,18 @@ public final class RuleTest {
         public Void visitMethodInvocation(MethodInvocationTree node, Void p) {
             call(trees.getElement(new TreePath(getCurrentPath(), node.getMethodSelect())), node);
             return super.visitMethodInvocation(node, p);
+        }
+
+        /** Of the library only functions are listed, no constants. */
+        @Override
+        public Void visitMemberSelect(MemberSelectTree node, Void p) {
+            Element chosen = element();
+            boolean isField = chosen != null && chosen.getKind() == ElementKind.FIELD;
+            if (isField && !node.getIdentifier().contentEquals("length")
+                    && !chosen.getEnclosingElement().toString().startsWith("MixStage")) {
+                fault("use of " + node);
+            }
+            return super.visitMemberSelect(node, p);
         }
 
         @Override

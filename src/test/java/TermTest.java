@@ -41,6 +41,8 @@ public final class TermTest extends Kit {
         due("a seventh", x.edition(), -1);
         due("frames(6)", x.frames(6), -1);
         due("count(0)", x.count(0), 6);
+        due("from EDITION 0 by way of all", x.old(5, 0, 0), 0);
+        due("of none such", x.old(6, 0, 0), -2);
 
         about("Another one is cut from the one ahead of it");
         x = reel(5);
