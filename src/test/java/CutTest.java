@@ -152,6 +152,19 @@ public final class CutTest extends Kit {
         x.edition();
         x.keep(0, 1);
         fate(x, 2, GONE, -1);
+        for (int f = 0; f < 5; f++) {
+            x = reel(6);
+            tone(x, 8, 1, 0);
+            tell(x, "sheet lay 0 at " + f + " stem 0; end");
+            x.edition();
+            x.keep(f + 1, f + 2);
+            x.keep(f, f + 1);
+            fate(x, 1, PARTED, 0);
+            x.edition();
+            x.keep(1, 2);
+            x.keep(0, 1);
+            fate(x, 2, MOVED, 0);
+        }
     }
 
     private static void louds() {
@@ -221,6 +234,7 @@ public final class CutTest extends Kit {
         due("the greatest m", tame("loud 9999 in 1;", lay + lay + lay), 0);
         due("the first loud RULE", tame("right 1; loud 4 in 1; loud 0 in 1;", lay), 0);
         due("the first loud RULE", tame("loud 3 in 1; loud 9 in 1;", lay), 1);
+        due("the first loud RULE", tame("right 1; right 2; loud 3 in 1; loud 9 in 1;", lay), 1);
         due("no loud RULE", tame("right 1;", lay), -1);
         due("no lays", tame("loud 0 in 1;", "clip 9;"), 0);
         MixStage x = new MixStage();

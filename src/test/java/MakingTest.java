@@ -586,6 +586,8 @@ public final class MakingTest extends Kit {
         String[] sheets = {
             "sheet lay 0 at mark 3 stem 0; end",
             "sheet lay 0 at mark 3 + 1 stem 0; end",
+            "sheet lay 0 at mark 3 - 1 stem 0; end",
+            "sheet fade 0 from 0 to mark 3 - 1 gain 1, 1; end",
             "sheet lay 0 at mark 3 - 60 for 0 stem 0; end",
             "sheet fade 0 from mark 3 to 0 gain 1, 1; end",
             "sheet fade 0 from 0 to mark 3 gain 1, 1; end",
@@ -614,7 +616,7 @@ public final class MakingTest extends Kit {
             x.mark(8, 0);
             due("other MARKS, and refused ones: " + sheets[i], x.about(mix, 4), 0);
             x.mark(3, 0);
-            due("the MARK, told alike: " + sheets[i], x.about(mix, 4), i < 12 ? 1 : 0);
+            due("the MARK, told alike: " + sheets[i], x.about(mix, 4), i < 14 ? 1 : 0);
             x.again();
             due("made again: " + sheets[i], x.about(mix, 4), 0);
         }

@@ -503,6 +503,8 @@ public final class PromiseTest extends Kit {
         heard(x, 7, 0, 1, 2, 3);
         // of no SAMPLES all are there
         due("a row of none", x.wave(0, 4, 4, 0, 0), true);
+        due("a row of none", x.wave(0, 4, 4, 10000, 0), true);
+        due("a row of none", x.wave(0, 5, 4, 0, 0), true);
     }
 
     private static void samples() {

@@ -177,6 +177,16 @@ public final class TextTest extends Kit {
         fault("rules right 1 if 1 !== 1; end", 1, 21);
         fault("rules right 1 if 1 <== 1; end", 1, 21);
         fault("rules right 1 if 1 << 1; end", 1, 20);
+        fault("rules right 1 if 1 ==", 1, 21);
+        fault("rules right 1 if 1 !=", 1, 21);
+        fault("rules right 1 if 1 <=", 1, 21);
+        fault("sheet clip 1;= end", 1, 13);
+        fault("sheet taps 0 of 1,= end", 1, 18);
+        fault("rules right (=1); end", 1, 13);
+        fault("rules right (1)=1; end", 1, 15);
+        for (String sign : "+ - * /".split(" ")) {
+            fault("rules right 1 " + sign + "= 1; end", 1, 15);
+        }
         fault("rules right 1 if 1 =", 1, 19);
         fault("rules right 1 if 1 !", 1, 19);
         fault("rules right 1 if 1 <", 1, 20);
