@@ -87,7 +87,7 @@ public final class RefusalTest extends Kit {
                 : i % 4 == 2 ? x.loud(i / 4, 1) : x.seam(i / 4));
         for (int s = 0; s < 20; s++) {
             int sound = s;
-            look("heard of " + s, s < 2 ? 240 : 24, (x, i) -> x.heard(sound, i));
+            look("heard of " + s, 26, (x, i) -> x.heard(sound, i - 1));
         }
         for (int s = 0; s < 8; s++) {
             int sheet = s;
