@@ -319,6 +319,18 @@ public final class MakingTest extends Kit {
                 9999, 9999, 9999, 9999);
         int low = tone(x, 4, -9999, 0);
         mixed(x, "lay " + low + " at 0 gain 400 stem 0;" + times(12, "taps 0 of 400;"), -9999, -9999, -9999, -9999);
+        // from the 21st on what is times 400 is more than 64 bits hold: that wraps
+        for (int n = 20; n < 40; n++) {
+            x = reel(1);
+            tone(x, 4, 9999, 0);
+            int mix = mix(x, "block a " + times(10, "taps 0 of 400;") + "end sheet lay 0 at 0 gain 400 stem 0;"
+                    + times(n / 10, "use a at 0;") + times(n % 10, "taps 0 of 400;") + "end");
+            long value = 39996;
+            for (int i = 0; i < n; i++) {
+                value = value * 400 / 100;
+            }
+            due("behind " + n + " taps", x.heard(mix, 3), Math.max(-9999, Math.min(9999, value)));
+        }
     }
 
     private static void allStems() {
